@@ -23,7 +23,8 @@ public final class ImageTest {
             states[what] = x.state(what);
         }
         Due.same("image", x.image(), 7);
-        x.run(1, 50);
+        x.run(1, 5);
+        Due.same("it arches otherwise", x.state(2) > 0 && x.state(2) != states[2] ? 1 : 0, 1);
         x.set(0, 1);
         x.set(1, 2);
         x.set(2, 2);

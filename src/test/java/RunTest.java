@@ -198,6 +198,7 @@ public final class RunTest {
         shares(1, 0, 100, 0, 1);
         shares(1, 7, 100, 7, 93);
         shares(1, 1, 100, 1, 99);
+        shares(1, 2, 100, 1, 49);
         shares(4, 40, 100, 2, 1);
         shares(4, 40, 0, 0, 1);
         shares(4, 25, 100, 1, 2);

@@ -6,6 +6,7 @@ public final class ShelfTest {
         rowsAreNew();
         rowRefuses();
         putKeepsTheLowestBits();
+        putTakesThePlaceOfWhatWas();
         putRefuses();
         elementThrows();
         copyCopies();
@@ -82,6 +83,15 @@ public final class ShelfTest {
             Due.same("byte of " + put[i], x.element(0, i), (byte) put[i]);
             Due.same("short of " + put[i], x.element(1, i), (short) put[i]);
             Due.same("int of " + put[i], x.element(2, i), put[i]);
+        }
+    }
+
+    private static void putTakesThePlaceOfWhatWas() {
+        ChainLeap x = new ChainLeap();
+        for (int sort = 0; sort < 3; sort++) {
+            Due.numbers(x, sort, sort, 5, 6);
+            Due.same("put again", x.put(sort, 1, -7), 0);
+            holds(x, sort, 5, -7);
         }
     }
 

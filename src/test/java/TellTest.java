@@ -358,6 +358,7 @@ public final class TellTest {
         Due.same("all in the jar", x.scale(1, 0), 2000);
         Due.same("one tick", x.scale(1, 1), 980 * 2 + 160);
         Due.same("two ticks", x.scale(1, 2), 942 * 2 + 602);
+        Due.same("three ticks", x.scale(1, 3), 888 * 2 + 1175);
         x.set(3, 58);
         Due.same("done", x.scale(1, 2), 602);
         Due.same("the pace stays", x.scale(1, 500), 602);
