@@ -28,6 +28,11 @@ public final class ChainLeap {
     private static final int LAST_DONE_TICK = 2000;
     private static final int FULL = 100;
 
+    // The least numbers of the SORTS stand for what a film doesn't tell.
+    private static final int LEAST_BYTE = -128;
+    private static final int LEAST_SHORT = -32768;
+    private static final int LEAST_INT = -2147483648;
+
     /** How stiff, how far it bends, how it is laid, how high the jar stands: a TRY, and what the CHAIN has of it. */
     private static final class Setting {
         private int rod = 50;
@@ -248,8 +253,8 @@ public final class ChainLeap {
             walked.step(by.kick(chain), by.less(chain), chain.drop, length);
         }
 
-        /** Looks at a new TRY behind so many that are not counted yet; false if it isn't as told or has no room. */
-        boolean admits(Setting read, int ahead) {
+        /** Writes a new TRY behind so many that are not counted yet; false if it is not as told or has no room. */
+        boolean writes(Setting read, int ahead) {
             int place = tryCount + ahead;
             if (!read.isAsTold() || place < 0 || place >= TRY_ROOM) {
                 return false;
@@ -270,14 +275,6 @@ public final class ChainLeap {
         private int sort = 0;
         private int size = 0;
         private final int[] elements = new int[ROW_ROOM];
-
-        boolean isEmpty() {
-            return held == EMPTY;
-        }
-
-        boolean holdsStory() {
-            return held == STORY;
-        }
 
         boolean holdsRow() {
             return held == ROW;
@@ -331,15 +328,14 @@ public final class ChainLeap {
             return hasPlace(i) ? elements[i] : 0;
         }
 
-        /** The least number of the SORT stands for what a film doesn't tell. */
         boolean tells(int i) {
             switch (sort) {
                 case 0:
-                    return at(i) != -128;
+                    return at(i) != LEAST_BYTE;
                 case 1:
-                    return at(i) != -32768;
+                    return at(i) != LEAST_SHORT;
                 default:
-                    return at(i) != Integer.MIN_VALUE;
+                    return at(i) != LEAST_INT;
             }
         }
     }
@@ -454,24 +450,22 @@ public final class ChainLeap {
 
     /** 0, or why no STORY is on SHELF d. */
     private int storyRefusal(int d) {
-        if (!isShelf(d)) {
-            return NO_SUCH;
-        }
-        if (shelves[d].isEmpty()) {
-            return NOTHING_HELD;
-        }
-        return shelves[d].holdsStory() ? 0 : OTHER_KIND;
+        return refusalOf(d, Shelf.STORY);
     }
 
     /** 0, or why no ROW is on SHELF d. */
     private int rowRefusal(int d) {
+        return refusalOf(d, Shelf.ROW);
+    }
+
+    private int refusalOf(int d, int wanted) {
         if (!isShelf(d)) {
             return NO_SUCH;
         }
-        if (shelves[d].isEmpty()) {
+        if (shelves[d].held == Shelf.EMPTY) {
             return NOTHING_HELD;
         }
-        return shelves[d].holdsRow() ? 0 : OTHER_KIND;
+        return shelves[d].held == wanted ? 0 : OTHER_KIND;
     }
 
     /** The earlier told of two refusals of -1, -11 and -12, that of SHELF d and that of SHELF e; 0 if neither. */
@@ -571,7 +565,7 @@ public final class ChainLeap {
             if (reader.broken) {
                 return -1000 - reader.at;
             }
-            if (wrongPlace < 0 && !scene.admits(draft, statements)) {
+            if (wrongPlace < 0 && !scene.writes(draft, statements)) {
                 wrongPlace = place;
             }
             statements++;

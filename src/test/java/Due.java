@@ -1,3 +1,7 @@
+import java.lang.reflect.InvocationTargetException;
+import java.lang.reflect.Method;
+import java.util.Arrays;
+
 /** Counts answers that are not the ones that are due, and ends a test's run. */
 final class Due {
     private static int looked = 0;
@@ -48,6 +52,21 @@ final class Due {
             return 1;
         } catch (IllegalStateException e) {
             return 2;
+        }
+    }
+
+    /** What a call answers that is told as a text: its name, its arguments between commas. */
+    static String answer(ChainLeap x, String name, String given) {
+        Object[] arguments = given.isEmpty() ? new Object[0] : Arrays.stream(given.split(", ")).map(Integer::valueOf).toArray();
+        Class<?>[] types = new Class<?>[arguments.length];
+        Arrays.fill(types, int.class);
+        try {
+            Method method = ChainLeap.class.getMethod(name, types);
+            return method.invoke(x, arguments).toString();
+        } catch (InvocationTargetException e) {
+            return "throws." + e.getCause().getClass().getSimpleName();
+        } catch (NoSuchMethodException | IllegalAccessException e) {
+            return "no such call";
         }
     }
 

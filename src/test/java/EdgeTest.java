@@ -1,6 +1,4 @@
 import java.io.IOException;
-import java.lang.reflect.InvocationTargetException;
-import java.lang.reflect.Method;
 import java.nio.file.Files;
 import java.nio.file.Path;
 import java.util.ArrayList;
@@ -113,24 +111,10 @@ public final class EdgeTest {
         }
         int times = call.group(1) == null ? 1 : Integer.parseInt(call.group(1));
         for (int k = 0; k < times; k++) {
-            String got = answer(call.group(2), call.group(3));
+            String got = Due.answer(x, call.group(2), call.group(3));
             calls++;
             String due = call.group(4);
             Due.same(named + " (answered " + got + ")", due.equals("_") || due.equals(got) ? 1 : 0, 1);
-        }
-    }
-
-    private static String answer(String name, String given) {
-        Object[] arguments = given.isEmpty() ? new Object[0] : Arrays.stream(given.split(", ")).map(Integer::valueOf).toArray();
-        Class<?>[] types = new Class<?>[arguments.length];
-        Arrays.fill(types, int.class);
-        try {
-            Method method = ChainLeap.class.getMethod(name, types);
-            return method.invoke(x, arguments).toString();
-        } catch (InvocationTargetException e) {
-            return "throws." + e.getCause().getClass().getSimpleName();
-        } catch (NoSuchMethodException | IllegalAccessException e) {
-            return "no such call";
         }
     }
 

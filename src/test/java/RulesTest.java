@@ -99,7 +99,8 @@ public final class RulesTest {
             "package ", "import ", "\\bfinally\\b", "\\bsynchronized\\b", "\\bassert\\b", "->", "::", "\\bgetMessage\\b",
             "\\bNullPointerException\\b", "\\bArrayIndexOutOfBoundsException\\b", "\\bClassCastException\\b", "\\bRuntimeException\\b",
             "catch \\(ArithmeticException", "catch \\(IndexOutOfBoundsException", "\\bThrowable\\b", "catch \\(Exception", "\\bError\\b",
-            "Exact\\(", "\\bstatic \\{", "\\bhashCode\\b", "\\bequals\\b", "\\btoString\\b", "TEXT \\+", "\\+ TEXT", "\\bprotected\\b"};
+            "Exact\\(", "\\b(Integer|Long|Math)\\.[A-Z]",
+            "\\bstatic \\{", "\\bhashCode\\b", "\\bequals\\b", "\\btoString\\b", "TEXT \\+", "\\+ TEXT", "\\bprotected\\b"};
         for (String word : words) {
             Due.same("the source has " + word, Pattern.compile(word).matcher(source).find() ? 1 : 0, 0);
         }
